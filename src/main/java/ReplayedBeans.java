@@ -366,7 +366,7 @@ public final class ReplayedBeans {
         }
 
         private boolean joinOrBothNone(int left, int right) {
-            if (left == NONE || right == NONE) {
+            if (!beans.isThere(left) || !beans.isThere(right)) {
                 return left == right;
             }
             return join(left, right);
@@ -450,7 +450,7 @@ public final class ReplayedBeans {
             for (int i = 0; i < reach.found; i++) {
                 for (int k = 0; k < MOST_LINKS; k++) {
                     int to = beans.linkOf(reach.order[i], k);
-                    if (to != NONE) {
+                    if (beans.isThere(to)) {
                         linksTo[to]++;
                     }
                 }
@@ -478,7 +478,7 @@ public final class ReplayedBeans {
             putNumbers(o);
             for (int k = 0; k < MOST_LINKS; k++) {
                 int to = beans.linkOf(o, k);
-                if (to != NONE) {
+                if (beans.isThere(to)) {
                     putLinkStatement(k, to, level);
                 }
             }
