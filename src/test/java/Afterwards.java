@@ -80,6 +80,7 @@ final class Afterwards {
             tell("setNumber(" + o + ", 2, 2)", beans.setNumber(o, 2, 2));
             tell("setLink(" + o + ", 0, 0)", beans.setLink(o, 0, 0));
             tell("setLink(" + o + ", 1, 0)", beans.setLink(o, 1, 0));
+            tell("values(" + kind + ", 2, 3, 3, 4)", beans.values(kind, 2, 3, 3, 4));
         }
     }
 

@@ -41,6 +41,7 @@ final class PromiseBounds {
         noObjectsNoTextNothingRead();
         newOnesHaveNothingInCommon();
         definesKinds();
+        defineLeavesOtherKinds();
         defineRefusesKinds();
         defineRefusesWhatIsDefined();
         defineRefusesNumbers();
@@ -103,6 +104,14 @@ final class PromiseBounds {
         beans.values(0, 0, 5, 2, 8);
         Check.readAll(beans, "(ay=6p=(az=1001)q=(b#3))");
         beans.setLink(1, 1, 0);
+    }
+
+    /** That a call which only asks leaves all as it was. */
+    private void onlyAsks(String call, Sentences.Calls asking) {
+        s.changesNothing(call, beans -> {
+            some(beans);
+            beans.make(1);
+        }, asking);
     }
 
     private void the512thCall() {
@@ -171,6 +180,27 @@ final class PromiseBounds {
         }
     }
 
+    private void defineLeavesOtherKinds() {
+        s.of("Promise 2", DEFINE);
+        for (int kind = 0; kind <= 3; kind++) {
+            ReplayedBeans beans = new ReplayedBeans();
+            beans.define(kind, 3, 2);
+            for (int k = 0; k <= 2; k++) {
+                beans.values(kind, k, 20 + k, 10 + k, 30 + k);
+            }
+            for (int other = 0; other <= 3; other++) {
+                due("define(" + other + ", 1, 0)", beans.define(other, 1, 0), other != kind);
+            }
+            beans.make(kind);
+            s.dueObject(beans, 0, kind + ": 20 21 22, -1 -1");
+            for (int k = 0; k <= 2; k++) {
+                due("below its least", beans.setNumber(0, k, 9 + k), false);
+                due("above its greatest", beans.setNumber(0, k, 31 + k), false);
+            }
+            due("its last link", beans.setLink(0, 1, 0), true);
+        }
+    }
+
     private void refusedDefine(int kind, int numbers, int links) {
         String call = "define(" + kind + ", " + numbers + ", " + links + ")";
         s.changesNothing(call, beans -> { }, beans -> due(call, beans.define(kind, numbers, links), false));
@@ -209,14 +239,14 @@ final class PromiseBounds {
     private void defineRefusesNumbers() {
         s.of("Promise 2", DEFINE);
         for (int numbers : new int[] {-1, 4, LOWEST, HIGHEST}) {
-            refusedDefine(3, numbers, 1);
+            refusedDefine(3, numbers, 2);
         }
     }
 
     private void defineRefusesLinks() {
         s.of("Promise 2", DEFINE);
         for (int links : new int[] {-1, 3, LOWEST, HIGHEST}) {
-            refusedDefine(3, 1, links);
+            refusedDefine(3, 3, links);
         }
     }
 
@@ -392,6 +422,7 @@ final class PromiseBounds {
         due("count() after clear()", beans.count(), 0);
         Check.readAll(beans, "(ap=(a)p=(b))");
         due("count() after read()", beans.count(), 2);
+        onlyAsks("count()", asked -> due("count()", asked.count(), 4));
     }
 
     private void kindOfObjects() {
@@ -406,6 +437,10 @@ final class PromiseBounds {
         for (int o : new int[] {-1, -2, 24, LOWEST, HIGHEST}) {
             due("kind(" + o + ")", beans.kind(o), -1);
         }
+        onlyAsks("kind()", asked -> {
+            due("kind(3)", asked.kind(3), 1);
+            due("kind(4)", asked.kind(4), -1);
+        });
     }
 
     private void setsNumbers() {
@@ -557,6 +592,10 @@ final class PromiseBounds {
         due("number(-1, 3)", beans.number(-1, 3), 0);
         beans.clear();
         due("number(0, 0) after clear()", beans.number(0, 0), 0);
+        onlyAsks("number()", asked -> {
+            due("number(0, 1)", asked.number(0, 1), 6);
+            due("number(3, 0)", asked.number(3, 0), 0);
+        });
     }
 
     private void linkOfObjects() {
@@ -581,6 +620,10 @@ final class PromiseBounds {
         due("link(1, 2)", beans.link(1, 2), -1);
         beans.clear();
         due("link(0, 0) after clear()", beans.link(0, 0), -1);
+        onlyAsks("link()", asked -> {
+            due("link(0, 1)", asked.link(0, 1), 2);
+            due("link(3, 0)", asked.link(3, 0), -1);
+        });
     }
 
     private void howManyAreReachable() {
@@ -601,6 +644,10 @@ final class PromiseBounds {
             due("reachable(" + o + ")", beans.reachable(o), 0);
         }
         due("reachable(0) again", beans.reachable(0), 24);
+        onlyAsks("reachable()", asked -> {
+            due("reachable(0)", asked.reachable(0), 3);
+            due("reachable(4)", asked.reachable(4), 0);
+        });
     }
 
     private void alikeOrNotThere() {
@@ -618,6 +665,11 @@ final class PromiseBounds {
         }
         beans.setNumber(23, 0, 1);
         due("alike(0, 23) no more", beans.alike(0, 23), false);
+        onlyAsks("alike()", asked -> {
+            due("alike(2, 3)", asked.alike(2, 3), true);
+            due("alike(0, 1)", asked.alike(0, 1), false);
+            due("alike(0, 4)", asked.alike(0, 4), false);
+        });
     }
 
     private void writes() {
@@ -785,6 +837,7 @@ final class PromiseBounds {
         due("length() after wipe()", beans.length(), 0);
         beans.type('\n');
         due("length() after what is refused", beans.length(), 0);
+        onlyAsks("length()", asked -> due("length()", asked.length(), 24));
     }
 
     private void characterAtPlaces() {
@@ -804,6 +857,10 @@ final class PromiseBounds {
         beans.type('~');
         due("at(1) after wipe()", beans.at(1), '~');
         due("at(2) after wipe()", beans.at(2), -1);
+        onlyAsks("at()", asked -> {
+            due("at(24)", asked.at(24), ')');
+            due("at(25)", asked.at(25), -1);
+        });
     }
 
     private void readsObjects() {
@@ -866,6 +923,7 @@ final class PromiseBounds {
         ReplayedBeans many = new ReplayedBeans();
         Check.readAll(many, "(b#00" + "p=(b#0)".repeat(42) + ")");
         due("failures() of 300 characters", many.failures(), 128);
+        onlyAsks("failures()", asked -> due("failures()", asked.failures(), 1));
     }
 
     private void failuresOfNoReading() {
@@ -900,5 +958,9 @@ final class PromiseBounds {
         due("failure(1) of the next", beans.failure(1), 0);
         Check.readAll(beans, "(a)");
         due("failure(0) of none", beans.failure(0), 0);
+        onlyAsks("failure()", asked -> {
+            due("failure(0)", asked.failure(0), 10);
+            due("failure(1)", asked.failure(1), 0);
+        });
     }
 }
