@@ -306,7 +306,7 @@ public final class ReplayedBeans {
             }
             found = 0;
             visit(o);
-            for (int next = 0; next < found; next++) {
+            for (int next = 0; next < MOST_OBJECTS && next < found; next++) {
                 for (int k = 0; k < MOST_LINKS; k++) {
                     visit(beans.linkOf(order[next], k));
                 }
@@ -347,7 +347,7 @@ public final class ReplayedBeans {
             if (!join(a, b)) {
                 return false;
             }
-            for (int next = 0; next < paired; next++) {
+            for (int next = 0; next < MOST_OBJECTS && next < paired; next++) {
                 int left = order[next];
                 if (!linksPairUp(left, rightOf[left])) {
                     return false;

@@ -11,6 +11,7 @@ final class AlikeTest {
         exactlyOne();
         withinOneAnother();
         longOnes();
+        onlyTheLastPairIsWrong();
         CHECK.finish();
     }
 
@@ -141,5 +142,34 @@ final class AlikeTest {
         CHECK.due("back to another one", beans.alike(0, 12), false);
         beans.setLink(23, 1, 15);
         CHECK.due("back to the same one", beans.alike(0, 12), true);
+    }
+
+    /**
+     * All 24 objects are reachable from 0 and from 1. The pairs go to and fro (0 and 1, 6 and 7, .. 22 and
+     * 23) and round (2, 3, 4), and 5 goes with itself; they fit, but for the links to the round of 1 and 0.
+     */
+    private static void onlyTheLastPairIsWrong() {
+        ReplayedBeans beans = Check.withKinds(0, 2);
+        Check.makeMany(beans, 0, 24);
+        for (int i = 0; i < 2; i++) {
+            beans.setLink(i, 0, 2 + i);
+            beans.setLink(i, 1, 6 + i);
+            for (int o = 6 + i; o < 22; o += 2) {
+                beans.setLink(o, 0, o + 2);
+                beans.setLink(o, 1, o + 1 - 2 * i);
+            }
+            beans.setLink(22 + i, 0, 23 - i);
+            beans.setLink(22 + i, 1, 1 - i);
+        }
+        for (int o = 2; o <= 4; o++) {
+            beans.setLink(o, 0, o == 4 ? 2 : o + 1);
+            beans.setLink(o, 1, 5);
+        }
+        CHECK.due("reachable from 0", beans.reachable(0), 24);
+        CHECK.due("reachable from 1", beans.reachable(1), 24);
+        CHECK.due("1 and 0 would be the last pair", beans.alike(0, 1), false);
+        beans.setLink(0, 0, 5);
+        beans.setLink(1, 0, 5);
+        CHECK.due("without links to the round", beans.alike(0, 1), true);
     }
 }

@@ -4,6 +4,9 @@ import java.util.Arrays;
 final class PromiseBounds {
     private static final int LOWEST = Integer.MIN_VALUE;
     private static final int HIGHEST = Integer.MAX_VALUE;
+    private static final String WHAT_IT_IS = "Keeps objects that hold numbers and lead to one another, writes"
+        + " what can be reached from one of them as a text that says only what a new object does not show by"
+        + " itself, and builds objects anew by doing what such a text says, piece by piece, past what fails.";
     private static final String NEW = "No kind is defined; no objects; the text is empty; nothing was read.";
     private static final String DEFINE = "Defines a kind; false, changing nothing, when kind is not 0 .. 3, it"
         + " is defined, numbers is not 0 .. 3 or links not 0 .. 2.";
@@ -28,6 +31,8 @@ final class PromiseBounds {
         + " made, NONE if that failed; when it is no object, 1000 times -1, less the place.";
     private static final String FAILURES = "How many failures the latest reading of a text that was an object"
         + " had; 0 when there was none.";
+    private static final String FAILURE = "The place of failure k (from 0) of that reading; 0 when there is"
+        + " none.";
 
     private final Sentences s;
 
@@ -36,6 +41,8 @@ final class PromiseBounds {
     }
 
     void run() {
+        keepsWritesAndBuildsAnew();
+        buildsPastWhatFails();
         the512thCall();
         noKindIsDefined();
         noObjectsNoTextNothingRead();
@@ -84,6 +91,7 @@ final class PromiseBounds {
         readsFailed();
         readsNoObject();
         failuresOfTheLatestReading();
+        failuresUntilTheNextReading();
         failuresOfNoReading();
         placesOfFailures();
     }
@@ -112,6 +120,58 @@ final class PromiseBounds {
             some(beans);
             beans.make(1);
         }, asking);
+    }
+
+    /** Three objects in a ring, of which one has a number that is not the default. */
+    private static ReplayedBeans ring() {
+        ReplayedBeans beans = Check.withKinds(2, 2, 1, 1);
+        beans.make(0);
+        beans.make(1);
+        beans.make(0);
+        beans.setLink(0, 1, 1);
+        beans.setLink(1, 0, 2);
+        beans.setLink(2, 0, 0);
+        beans.setNumber(2, 1, -5);
+        return beans;
+    }
+
+    private void keepsWritesAndBuildsAnew() {
+        s.of("What it is", WHAT_IT_IS);
+        ReplayedBeans from = ring();
+        from.make(0);
+        String text = "(a#0q=(bp=(ay=-5p=@0)))";
+        s.dueWritten(from, 0, text);
+        due("what can't be reached is not built", from.read(), 4);
+        due("count()", from.count(), 7);
+        due("alike(0, 4)", from.alike(0, 4), true);
+        ReplayedBeans other = Check.withKinds(2, 2, 1, 1);
+        s.dueRead(other, text, 0, "");
+        s.dueWritten(other, 0, text);
+        from.values(0, 1, -5, -9, 9);
+        s.dueWritten(from, 0, "(a#0y=0q=(bp=(ap=@0)))");
+        s.dueWritten(from, 3, "(ay=0)");
+        due("with the defaults of now", from.read(), 7);
+        s.dueObject(from, 7, "0: 0 0 0, -1 -1");
+        from.make(0);
+        s.dueWritten(from, 8, "(a)");
+    }
+
+    private void buildsPastWhatFails() {
+        s.of("What it is", WHAT_IT_IS);
+        ReplayedBeans from = ring();
+        from.setLink(0, 0, 2);
+        String text = "(a#0p=(a#1y=-5p=@0)q=(bp=@1))";
+        s.dueWritten(from, 0, text);
+        ReplayedBeans withoutB = Check.withKinds(2, 2);
+        s.dueRead(withoutB, text, 0, "22 24 20");
+        s.dueWritten(withoutB, 0, "(a#0p=(ay=-5p=@0))");
+        ReplayedBeans withoutY = Check.withKinds(1, 2, 0, 1);
+        s.dueRead(withoutY, text, 0, "11");
+        s.dueWritten(withoutY, 0, "(a#0p=(a#1p=@0)q=(bp=@1))");
+        ReplayedBeans withoutA = new ReplayedBeans();
+        withoutA.define(1, 0, 1);
+        s.dueRead(withoutA, text, -1, "1 3 7 9 11 15 5 24 20");
+        s.dueObject(withoutA, 0, "1: 0 0 0, -1 -1");
     }
 
     private void the512thCall() {
@@ -926,6 +986,44 @@ final class PromiseBounds {
         onlyAsks("failures()", asked -> due("failures()", asked.failures(), 1));
     }
 
+    /** No call but read() is a reading, so none of the others touches the failures of the latest one. */
+    private void failuresUntilTheNextReading() {
+        s.of("Promise 20", FAILURES);
+        s.of("Promise 21", FAILURE);
+        ReplayedBeans beans = Check.withKinds(1, 1);
+        Check.readAll(beans, "(ay=1p=(b#1))");
+        String places = "3 8 10 6";
+        s.due("after read()", Check.failuresOf(beans), places);
+        beans.wipe();
+        s.due("after wipe()", Check.failuresOf(beans), places);
+        beans.clear();
+        s.due("after clear()", Check.failuresOf(beans), places);
+        beans.define(1, 1, 1);
+        s.due("after define()", Check.failuresOf(beans), places);
+        beans.values(0, 0, 1, 1, 1);
+        s.due("after values()", Check.failuresOf(beans), places);
+        beans.make(0);
+        beans.setNumber(0, 0, 1);
+        beans.setNumber(0, 0, 2);
+        beans.setLink(0, 0, 0);
+        beans.setLink(0, 0, 1);
+        s.due("after make(), setNumber() and setLink()", Check.failuresOf(beans), places);
+        beans.write(0);
+        s.due("after write()", Check.failuresOf(beans), places);
+        beans.type('(');
+        s.due("after type()", Check.failuresOf(beans), places);
+        due("read() of no object", beans.read(), -1010);
+        s.due("after it", Check.failuresOf(beans), places);
+        beans.clear();
+        beans.wipe();
+        due("failures() after clear() and wipe()", beans.failures(), 4);
+        s.dueRead(beans, "(b)", 0, "");
+        beans.wipe();
+        beans.clear();
+        due("failures() of the next one", beans.failures(), 0);
+        due("failure(0) of the next one", beans.failure(0), 0);
+    }
+
     private void failuresOfNoReading() {
         s.of("Promise 20", FAILURES);
         ReplayedBeans beans = new ReplayedBeans();
@@ -939,7 +1037,7 @@ final class PromiseBounds {
     }
 
     private void placesOfFailures() {
-        s.of("Promise 21", "The place of failure k (from 0) of that reading; 0 when there is none.");
+        s.of("Promise 21", FAILURE);
         ReplayedBeans beans = Check.withKinds(0, 1);
         due("failure(0) of no reading", beans.failure(0), 0);
         Check.readAll(beans, "(ax=1p=(b#7)p=@1)");
